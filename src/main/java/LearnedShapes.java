@@ -953,20 +953,26 @@ public final class LearnedShapes {
             if (kind == NONE || holds && depthOfNext() >= MOST_NESTED) {
                 return false;
             }
-            int value = addValue(kind);
-            run = 0;
-            if (holds) {
-                open = value;
-                state = kind == GROUP ? AT_PART : AT_FIRST_VALUE;
-            } else if (kind == WORD) {
-                state = IN_WORD;
-            } else if (kind == WHOLE) {
-                run = 1;
-                state = code == '-' ? BEHIND_MINUS : code == '0' ? BEHIND_ZERO : IN_WHOLE;
-            } else {
-                state = stateBehindValue();
-            }
+            boolean inRow = values.get(open, KIND) == ROW;
+            int value = values.addRow(inRow ? IN_ROW : letter, depthOfNext());
+            values.put(value, KIND, kind);
+            values.put(value, START, place);
+            values.put(value, PARENT, open);
+            open = holds ? value : open;
+            run = kind == WHOLE ? 1 : 0;
+            state = stateInValue(kind, code);
             return true;
+        }
+
+        private int stateInValue(int kind, int code) {
+            switch (kind) {
+                case GROUP: return AT_PART;
+                case ROW: return AT_FIRST_VALUE;
+                case WORD: return IN_WORD;
+                case WHOLE:
+                    return code == '-' ? BEHIND_MINUS : code == '0' ? BEHIND_ZERO : IN_WHOLE;
+                default: return stateBehindValue();
+            }
         }
 
         /** The kind of a value by its first character: that of a number is whole at first. */
@@ -1042,15 +1048,6 @@ public final class LearnedShapes {
 
         private int depthOfNext() {
             return open == NONE ? 0 : values.get(open, DEPTH) + 1;
-        }
-
-        private int addValue(int kind) {
-            boolean inRow = values.get(open, KIND) == ROW;
-            int value = values.addRow(inRow ? IN_ROW : letter, depthOfNext());
-            values.put(value, KIND, kind);
-            values.put(value, START, place);
-            values.put(value, PARENT, open);
-            return value;
         }
     }
 }

@@ -95,6 +95,9 @@ public final class PromiseTest {
         refuses("learn(0), too long", ARGUMENT, x, () -> x.learn(0));
         kindsAreJoined();
         valuesAreCounted();
+        same("() twice", learnt("()", "()").node(0, 0, 4), 2);
+        same("in the order of letters", nodes(learnt("(H1)", "(B(C1)D1)", "(B(B1)A1E1)"), 0, 1),
+                "-1 0 1 1 2 3 4 7");
         anyHasNoChildren();
         nodesAreRefused();
         anyIsRefused();
@@ -140,6 +143,9 @@ public final class PromiseTest {
         same("groups of any", x.node(0, 1, 6), 2);
         same("mark of any", x.node(0, 1, 5), 1);
         same("made of any", x.node(0, 1, 8), 2);
+        LearnedShapes y = learnt("(A(B1)C1)", "(A[(B1)]C'a')", "(A(B1)C2)");
+        same("behind any", nodes(y, 0, 4), "3 3 3");
+        same("letters behind any", nodes(y, 0, 1), "-1 0 2");
         same("any inside of a document", nodes(learnt("(A[(B(C1)),(B[]),(B()),5])"), 0, 0), "6 5 7");
     }
 
@@ -198,6 +204,7 @@ public final class PromiseTest {
         joinOfAny();
         joinOfMany();
         numbersGoRound();
+        valuesOfRowsGoRound();
     }
 
     private static void joinOfAny() {
@@ -214,8 +221,16 @@ public final class PromiseTest {
         LearnedShapes y = both("", "(A1)");
         same("none with nodes", y.join(0), 2);
         same("made of the other one", nodes(y, 0, 8), "1 1");
+        same("letters of the other one", nodes(y, 0, 1), "-1 0");
         same("with none", both("(A1)", "").join(0), 2);
         same("none with none", both("", "").join(1), 0);
+        same("one node with none", both("()", "").join(0), 1);
+        same("none with one node", both("", "()").join(0), 1);
+        LearnedShapes z = both("(A(B(C[1])))", "(A(B(C[1.5]D'x')))");
+        same("deepest", z.join(0), 6);
+        same("kinds of the deepest", nodes(z, 0, 0), "6 6 6 5 3 4");
+        same("made of the deepest", nodes(z, 0, 8), "1 1 1 1 2 2");
+        same("depths", nodes(z, 0, 3), "0 1 2 3 4 3");
     }
 
     private static void joinOfMany() {
@@ -249,6 +264,17 @@ public final class PromiseTest {
             round |= x.shape(i % 2, 0) < 0;
             boolean missing = i % 2 == 0 ? part < first : otherPart < second;
             same("optional after " + i, x.node(i % 2, 1, 7), missing ? 1 : 0);
+        }
+        same("went round", round, true);
+    }
+
+    private static void valuesOfRowsGoRound() {
+        LearnedShapes x = both("(A[1,1,1])", "(A[1])");
+        boolean round = false;
+        for (int i = 0; i < 50; i++) {
+            x.join(i % 2);
+            round |= x.node(i % 2, 2, 4) < 0;
+            same("values of a row cannot be missing", x.node(i % 2, 2, 7), 0);
         }
         same("went round", round, true);
     }
@@ -321,7 +347,8 @@ public final class PromiseTest {
         String[] good = {"", "(", "()", "(A", "(A-", "(A-0", "(A-0.", "(A-0.0", "(A0.00)", "(A1234)",
             "(A-1234.99)", "(A[", "(A[]", "(A[1,", "(A[1,n])", "(A'", "(A'abcde'", "(A'z'B",
             "(A[[[1]]])", "(A(B(C(D'x'))))", "(AnBnCnDnEnFnGnHn)", "(AnBnCnDnEnFnGnHn", "(HtAf)",
-            "(A(A1)B1)", "(A[(A1),(A1)])", "(A0B", "(A0.5B", "(A[0,0.1,-5])", "(A1.5"};
+            "(A(A1)B1)", "(A[(A1),(A1)])", "(A0B", "(A0.5B", "(A[0,0.1,-5])", "(A1.5",
+            "(A7B'x'C-8D'abcde')", "(A1234B'abcde'C1234.56D1234)", "(A[-1234,-0.5,1234.5,'a',1])"};
         for (String text : good) {
             same(text, type(new LearnedShapes(), text).firstError(), text.length());
         }
@@ -430,6 +457,7 @@ public final class PromiseTest {
             same("shape(0, " + what + ")", x.shape(0, what), due[what]);
             same("shape(1, " + what + ")", x.shape(1, what), what == 5 ? -1 : 0);
         }
+        same("depth of ()", learnt("()").shape(0, 5), 0);
         refuses("shape(0, 6)", ARGUMENT, x, () -> x.shape(0, 6));
         refuses("shape(0, -1)", ARGUMENT, x, () -> x.shape(0, -1));
         refuses("shape(2, 6)", INDEX, x, () -> x.shape(2, 6));
@@ -449,6 +477,7 @@ public final class PromiseTest {
         same("empty", type(x, "").document(0), -1);
         same("least", type(x, "()").document(0), 1);
         same("nested", type(x, "()").document(8), 1);
+        same("nested with parts", type(x, "(A(B1C'x'))").document(8), 2);
         type(x, "(");
         refuses("document(9), incomplete", ARGUMENT, x, () -> x.document(9));
     }
@@ -495,6 +524,11 @@ public final class PromiseTest {
         refuses("fits(0, 3)", ARGUMENT, x, () -> x.fits(0, 3));
         refuses("fits(0, -1)", ARGUMENT, x, () -> x.fits(0, -1));
         fitsByKind();
+        LearnedShapes y = learnt("(A(B(C[1])))");
+        same("deepest", fit(y, "(A(B(C[2])))"), "0 -1 -1");
+        same("kind of the deepest", fit(y, "(A(B(C[2,t])))"), "1 9 4");
+        same("missing in the deepest", fit(learnt("(A(B(C(D1))))"), "(A(B(C())))"), "3 7 3");
+        same("row of the deepest", fit(learnt("(A[[[]]])"), "(A[[[],[7]]])"), "2 8 3");
     }
 
     private static void fitsByKind() {
@@ -557,7 +591,10 @@ public final class PromiseTest {
             {"(A[1,[],n])", "(A[n])", "1 0"}, {"(A[(B1),()])", "(A[(B1)])", "1 0"},
             {"(A[(B1),()])", "(A[()])", "1 0"}, {"(A[(B1)])", "(A[(B1),()])", "0 1"},
             {"(A[(B1)])", "(A[(B1),(B2)])", "1 1"}, {"(A[(B1),(C1)])", "(A[(C1)])", "1 0"},
-            {"(A[n,(B1)])", "(A[n])", "1 0"}, {"(A[(B(C1)),()])", "(A[(B())])", "0 0"}};
+            {"(A[n,(B1)])", "(A[n])", "1 0"}, {"(A[(B(C1)),()])", "(A[(B())])", "0 0"},
+            {"()", "()", "1 1"}, {"()", "(A1)", "0 0"}, {"(A(B(C[1])))", "(A(B(C[2])))", "1 1"},
+            {"(A(B(C[1])))", "(A(B(C[1.5])))", "0 1"}, {"(A[[[n]]])", "(A[[[1]]])", "0 0"},
+            {"(A[[[n,1]]])", "(A[[[1]]])", "1 0"}};
         for (String[] row : rows) {
             LearnedShapes x = both(row[0], row[1]);
             same(row[0] + " and " + row[1], x.covers(0) + " " + x.covers(1), row[2]);
@@ -635,6 +672,9 @@ public final class PromiseTest {
                 same("after " + text, x.digest(), dueDigest(x, ""));
             }
         }
+        LearnedShapes y = both("(A(B1))", "(A1)");
+        type(y, "(A(B(C1)))");
+        same("for both shapes", y.digest(), dueDigest(y, "(A(B(C1)))"));
         sharesInDigest();
     }
 
