@@ -396,6 +396,20 @@ public final class CallEdgeTest {
         answers(TREE, "sureShare(0)", x -> x.sureShare(0), 3.0 / 6.0);
         answers(TREE + " 1(A1B1Cn)", "sureShare(1)", x -> x.sureShare(1), 3.0 / 4.0);
         answers("0(AnBnCnDnEnFnGnHn)", "sureShare(0)", x -> x.sureShare(0), 1.0 / 9.0);
+        for (int sure = 1; sure <= 25; sure++) {
+            answers(sureOfThirty(sure), "sureShare(0)", x -> x.sureShare(0), sure / 30.0);
+        }
+    }
+
+    /** The words for a shape 0 of 30 nodes: the first one and some parts of parts are sure. */
+    private static String sureOfThirty(int sure) {
+        StringBuilder words = new StringBuilder("0(");
+        for (int part = 0; part < 24; part++) {
+            words.append(part % 8 == 0 ? (char) ('A' + part / 8) + "(" : "");
+            words.append((char) ('A' + part % 8)).append(part < sure - 1 ? '1' : 'n');
+            words.append(part % 8 == 7 ? ")" : "");
+        }
+        return words + ") 0(D1E1)";
     }
 
     private static void digest() {
@@ -434,6 +448,10 @@ public final class CallEdgeTest {
             "0(A(B1)) 1(A1) <(A(B(C1)))", "0(A1) 1(A(B1)) <(A(B(C1)))",
             Edges.grown("(A1)") + " 1(A1B2) j0 <(A1B2)", Edges.grown("(A[1])") + " j1 j0 <(A[t])"};
         for (String words : states) {
+            answers(words, "digest()", x -> x.digest(), dueDigest(Edges.made(words), words));
+        }
+        for (int sure = 1; sure <= 25; sure++) {
+            String words = sureOfThirty(sure);
             answers(words, "digest()", x -> x.digest(), dueDigest(Edges.made(words), words));
         }
     }

@@ -58,6 +58,21 @@ public final class LearnEdgeTest {
         nodes(first + " 0(G1B(B1))", 2, "-1 0 1 2 0 4 4 4 0 0");
         nodes("0(D1) 0(C1) 0(B1) 0(A1)", 4, "4 1 1 1 1");
         nodes("0(D1) 0(C1) 0(B1) 0(A1)", 8, "1 4 3 2 1");
+        farBehindStays();
+    }
+
+    /** In a shape that is nearly full: nodes come and go far behind, ahead of the last one. */
+    private static void farBehindStays() {
+        String last = WIDE + " 0(H1.5)";
+        String letters = " 0 1 2 3 4 5 6 7";
+        String nothings = " 0 0 0 0 0 0 0 0";
+        String three = "-1 0" + letters + " 1" + letters + " 2" + letters;
+        nodes(last + " 0(E'x')", 1, three + " 4 7");
+        nodes(last + " 0(E'x')", 0, "6 6" + nothings + " 6" + nothings + " 6" + nothings + " 4 3");
+        nodes(last + " 0(E'x')", 8, "1" + " 1".repeat(27) + " 3 2");
+        nodes(last + " 0(C1)", 1, "-1 0" + letters + " 1" + letters + " 2 7");
+        nodes(last + " 0(C1)", 0, "6 6" + nothings + " 6" + nothings + " 7 3");
+        nodes(last + " 0(C1)", 8, "1" + " 1".repeat(18) + " 3 2");
     }
 
     private static void thirtyNodes() {
